@@ -44,7 +44,7 @@ final class Desk {
         return (from[at] & 255) << 24 | (from[at + 1] & 255) << 16 | (from[at + 2] & 255) << 8 | from[at + 3] & 255;
     }
 
-    /** Fills the tape to a length in a few calls, with zeros' hashes; the result is written over. */
+    /** The tape is 8,192 bytes of SHAKE256 of nothing, twice, up to a length; the result is written over. */
     Desk fill(int length) {
         next().end(0);
         next().hash(3, 8192);
