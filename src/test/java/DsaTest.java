@@ -1,4 +1,5 @@
 import java.lang.reflect.Field;
+import java.util.Arrays;
 import java.util.Base64;
 import java.util.NoSuchElementException;
 
@@ -15,11 +16,15 @@ public final class DsaTest {
         for (String[] due : Vectors.EDGES) {
             edgesOfTheLoopAreAsDue(due);
         }
+        for (String[] due : Vectors.TOO_LONG) {
+            anAnswerAtTheBoundIsRefused(due);
+        }
+        aHintAtZeroLowersTheStep();
+        keysDoNotMix();
         for (int set = 3; set < 6; set++) {
             whatIsAlteredIsRefused(set);
             theContextIsBound(set);
             hintsHaveOneForm(set);
-            anAnswerAtTheBoundIsRefused(set);
             aPublicPartVerifiesAlone(set);
             wrongSigningIsRefused(set);
             wrongVerifyingIsRefused(set);
@@ -42,7 +47,7 @@ public final class DsaTest {
         Check.same(what + "sign", desk.next().sign(0, n), Integer.parseInt(due[6]));
         Check.same(what + "lengths", desk.lengths(), "0 1 " + SIGNATURE[set]);
         desk.next().again();
-        desk.write(java.util.Arrays.copyOfRange(tape, 32, tape.length));
+        desk.write(Arrays.copyOfRange(tape, 32, tape.length));
         Check.same(what + "verify", desk.next().verify(0, n), true);
         Check.same(what + "verify takes the tape alone", desk.lengths(), "0 1 " + SIGNATURE[set]);
         Check.same(what + "signature", desk.resultDigest(), due[7]);
@@ -164,11 +169,48 @@ public final class DsaTest {
         desk.next().alter(at, desk.tapeByte(at) ^ value);
     }
 
-    private static void anAnswerAtTheBoundIsRefused(int set) {
-        byte[] signature = Base64.getDecoder().decode(Vectors.TOO_LONG[set - 3]);
-        Desk desk = edgeDesk(set);
-        desk.tape(signature);
-        Check.same("set " + set + ": an answer at the bound", desk.next().verify(0, 0), false);
+    private static void anAnswerAtTheBoundIsRefused(String[] due) {
+        Desk desk = edgeDesk(Integer.parseInt(due[0]));
+        desk.tape(Base64.getDecoder().decode(due[1]));
+        Check.same("set " + due[0] + ": an answer at the bound", desk.next().verify(0, 0), false);
+    }
+
+    private static void aHintAtZeroLowersTheStep() {
+        Desk desk = edgeDesk(3);
+        desk.tape(Base64.getDecoder().decode(Vectors.HINT_AT_ZERO));
+        Check.same("a hint where the rest is 0", desk.next().verify(0, 0), true);
+    }
+
+    /** Nothing of one set's or key's work is left for the next. */
+    private static void keysDoNotMix() {
+        Desk desk = new Desk();
+        int[] cases = {8, 0, 4, 6, 2, 3};
+        for (int i : cases) {
+            String[] due = Vectors.DSA[i];
+            desk.tape(Check.stream("dsa keys " + due[0] + " " + due[1], 32));
+            desk.next().keys(Integer.parseInt(due[0]));
+        }
+        for (int number = 0; number < cases.length; number++) {
+            String[] due = Vectors.DSA[cases[number]];
+            int n = Integer.parseInt(due[2]);
+            if (n > 9) {
+                continue;
+            }
+            desk.tape(Check.stream("dsa tape " + due[0] + " " + due[1], 32 + n + Integer.parseInt(due[3])));
+            Check.same("keys " + number + ": sign", desk.next().sign(number, n), Integer.parseInt(due[6]));
+            Check.same("keys " + number + ": signature", desk.resultDigest(), due[7]);
+        }
+        for (int number = 0; number < cases.length; number++) {
+            desk.tape(Check.stream("chance", 32));
+            desk.next().sign(number, 0);
+            int other = (number + 1) % cases.length;
+            desk.fill(5000);
+            Check.same("keys " + other + ": any bytes", desk.next().verify(other, 0), false);
+            desk.tape(Check.stream("chance", 32));
+            desk.next().sign(number, 0);
+            desk.next().again();
+            Check.same("keys " + number + ": verify", desk.next().verify(number, 0), true);
+        }
     }
 
     private static void aPublicPartVerifiesAlone(int set) {

@@ -1,3 +1,4 @@
+import java.util.Base64;
 import java.util.NoSuchElementException;
 
 /** Promises 11 and 12: seal and open. */
@@ -16,6 +17,7 @@ public final class KemTest {
             otherLengthsAreRefused(set);
             aPublicPartSealsAlone(set);
         }
+        keysDoNotMix();
         otherKeysAreRefused();
         Check.finish();
     }
@@ -141,6 +143,25 @@ public final class KemTest {
         desk.fill(CIPHER[set]);
         desk.next().open(0);
         Check.same("set " + set + ": a loaded secret part opens alike", byLoaded, desk.resultHex());
+    }
+
+    /** Nothing of one set's or key's work is left for the next. */
+    private static void keysDoNotMix() {
+        Desk desk = new Desk();
+        int[] cases = {0, 8, 4, 1, 7, 3};
+        for (int i : cases) {
+            desk.tape(Check.stream("kem keys " + Vectors.KEM[i][0] + " " + Vectors.KEM[i][1], 64));
+            desk.next().keys(Integer.parseInt(Vectors.KEM[i][0]));
+        }
+        for (int number = cases.length - 1; number > 0; number--) {
+            String[] due = Vectors.KEM[cases[number]];
+            desk.tape(Check.stream("kem message " + due[0] + " " + due[1], 32));
+            desk.next().seal(number);
+            Check.same("keys " + number + ": ciphertext and secret", desk.resultDigest(), due[4]);
+        }
+        desk.tape(Base64.getDecoder().decode(Vectors.KEM_CIPHER));
+        desk.next().open(0);
+        Check.same("keys 0 after the others' work", desk.resultHex(), Vectors.KEM[0][5]);
     }
 
     private static void otherKeysAreRefused() {

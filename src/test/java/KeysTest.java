@@ -12,6 +12,9 @@ public final class KeysTest {
         for (String[] due : Vectors.DSA) {
             keysAreAsDue(due, "dsa keys ", 32, due[4], due[5]);
         }
+        for (String[] due : Vectors.MATRIX) {
+            theModulusIsNoNumber(due);
+        }
         otherSetsAndLengthsAreRefused();
         eightAreTheMost();
         partGivesBytes();
@@ -31,6 +34,12 @@ public final class KeysTest {
         Check.same(what + "the result's bytes stay", desk.resultHex(), Check.hex(Check.sha3(new byte[0])));
         Check.same(what + "public part", desk.partDigest(0, false), publicDue);
         Check.same(what + "secret part", desk.partDigest(0, true), secretDue);
+    }
+
+    private static void theModulusIsNoNumber(String[] due) {
+        Desk desk = new Desk().tape(Check.stream("matrix keys " + due[0] + " " + due[1], 32));
+        desk.next().keys(Integer.parseInt(due[0]));
+        Check.same("set " + due[0] + ": the modulus is drawn", desk.partDigest(0, false), due[2]);
     }
 
     private static void otherSetsAndLengthsAreRefused() {

@@ -68,6 +68,20 @@ final class Vectors {
             "224a6a741d883771673d62c8589849300950c101ac894bb4196dbe5ec3f512fa"},
     };
 
+    /** The ciphertext of set 0, case 0, in base 64. */
+    static final String KEM_CIPHER =
+        "FSaSFWqKI88qnkl+Te0W+sHmh94tXA0mXaJp+iaS90BBACJqMCnD40X49a6bKQgat0OygU/rhy7bbQgGs2vOHG8sPNLxuNMzRKNl"
+        + "c5geSySSvHb8lPd83SeSESTF5Cx/JlMt9sXHsyzpierfKjfXG2/E87o6nDRrt99OgtczxCQQa0zwqIrtoZsfSJ6v/rD+/F+Ks22K"
+        + "s9VcxhmRSnPTNThP9hQnqdwc59Iv0uggjjpTOZfo97Ql3BRAV5oU9wr0NVgzKgYix/ozr8knTjQilEGKfYQHhOUTEICh84Cv5FNJ"
+        + "fUj1ThiK2qQQMtjYj7cq7zNy+Wx2W9fJVrigTM7V/iH2bR4N84nEfLJTnPUIPRCCxOXuu2vRIF7RovwOw4HsKUgJA28QnZZrRKHQ"
+        + "6exFhiqfpGUjhQsw1gGbvKoDUI2OTXSDEiVSZ8daYKMeyWKmYdc8c177GPeBylXU99dQaAg1ZL8e/rV2zvxLZ10736MwMABF0TRe"
+        + "ckLQNbb9Uayi3h718PahXGV5JPXWFLV+QXfULHiFaXIbkPv/TPWHJgwyQv7mLSusVHySdDBC5kSMXm8reJs9WpZ2GenHaHJ+CibA"
+        + "4LNX8Jwgi0HTzlcS6Of0HcLowEnvmY5e7YUeo5NUgnOspu9jqkbySyfO82zMi7wmXSpI6YaW/2R3gvyrKAzUXQGfXQplFnfEC94F"
+        + "+HwKK07xoWAES9uu5zwsVLkcD5RyYjW8msL36vTpsPCIkyeUHyu9NkW/Vou4u4tBvy0g2wWta+AkJeGxaUY1MXXlOA4Kyp/jyQg8"
+        + "3Nlqu+ZlK6Xq+H8DSM6Dr0jzOzbmi5wCKLKTL/TAGtT3vR7TiJ0ZOFfJKW3fNEw1uPpfyAkgmuODnD0C0gkg+iYowzwTBaR0SVAM"
+        + "SWBwL+YNSX6lCcg6qpJ6LRDe6kPUFh1piu8W59n1CTS7b+xRzSGZN41/Hgs7KIWA4kNTuw9S2QJuQh9o+z5gRA+qL8ocoWeEKsyC"
+        + "3si//0CMZtUdi1eC5CdnuKT4";
+
     /**
      * Secret parts whose numbers are mostly not below the modulus: set; SHA3-256 of ciphertext with secret; what
      * opening that ciphertext gives. Inputs: "wild secret SET", "wild public SET", "wild refusal SET",
@@ -142,7 +156,9 @@ final class Vectors {
      * of the signature. Inputs: "edge keys SET", "edge chance CASE". For each set, in this order: a pass is refused as
      * the answer's norm is just the bound; as the rest's is, above and below; as there is one hint too many; then the
      * pass that is taken is at the edge: of the answer's norm, of the rest's above and below, of the hints' number;
-     * last, one with a very long loop.
+     * last, one with a very long loop. Then for each set: a pass is refused as the answer's norm is just the bound,
+     * below; as the rest's is, where the last step is the first again; then the pass that is taken has a number just
+     * between two steps; (sets 4 and 5) has a row without hints; has an answer at the edge on the other side.
      */
     static final String[][] EDGES = {
         {"3", "47", "3", "cdf1bc3e4fe315d11d7b71cf64bffe7075c2f5bb8079ea9f6c7bc41ebe409718"},
@@ -172,15 +188,30 @@ final class Vectors {
         {"5", "232", "4", "b791cabbf18ee5047f4d177d9fc5940f499ef7a0ab8410d1a849600c2e361e06"},
         {"5", "429", "1", "5ba33b1071e8adc74b4cde2e75ae48099c5852a0ba176a01d9a40af80d08b24a"},
         {"5", "9736", "38", "321e509732baf9f39f9aa148d9c76ecccdd792c6acfe58b13278d24ae9d6e3e2"},
+        {"3", "55", "8", "fdd84e769008eaed450c4c02f60a6ab8881bca6adaa7a0d9808f17176ea2649a"},
+        {"3", "185", "5", "684cf3bede7c75cf1b3199b57ae31e700018d501ba601675144c759bb20ed3d7"},
+        {"3", "1053", "2", "c934157d233f4f81c25773c90c68c9788de08046deff7026a0ba4f4b350889be"},
+        {"3", "197", "1", "19fb137a6871ab3099293c88c309996db24e3246dc2c51dd0711a04969d0ceae"},
+        {"4", "1098", "4", "4cc269a94f1853a6b0f87defee71b6fd3bf165df523da0985098708dd56d7c53"},
+        {"4", "18644", "8", "eb09abe6338265b21003d50fb04c315749a22a907cc7e86d1de762622f66099a"},
+        {"4", "108", "6", "a95b4b554a04666927ece297f9b154aeaf946e708a28c5342f60c4d38687b85e"},
+        {"4", "13", "3", "19524dc55900de4115f6e45d8836233bd2435acfd88a0fa8c30b79eec3435825"},
+        {"4", "966", "3", "58b653f89f49e80b6f1589f72f72880cbfc919b05b8f56f91897c65d63e9824a"},
+        {"5", "710", "8", "8c4d3646292071d101cd15517985fd678a5aad05416187a6c8cfc12d46507a11"},
+        {"5", "1721", "7", "6717610f640e4c80586b3f5cd2d7b40a05ac37f074c8b79eec1dc2f036e6a499"},
+        {"5", "114", "2", "5a84cdb444f68cad4103638c52b09ab799685e739dbf1fc86a07bdc13672ff96"},
+        {"5", "52", "1", "7b4fc174f17f6b329f42741d285d169a96fd8b221037a644bfc5692b718d298d"},
+        {"5", "539", "5", "eea893f6d47eb82a455599922b58f89270ba835c15b17defa55387890db4cb66"},
     };
 
     /**
      * Signatures of nothing under "edge keys SET", in base 64, that are right but for the answer's norm, which is just
-     * the bound: a program that forgets the norm's test, or is off by one in it, takes them for good.
+     * the bound, above or (the last one) below: a program that forgets the norm's test, or is off by one in it, takes
+     * them for good.
      */
-    static final String[] TOO_LONG = {
-        ""
-            + "ks7KogOD85OQHA3sNfFBEOGyR0gL2Ohk/9Dpc+E8059wXIo4bodD4EpNb3RnAFRgSBYC8dh7XCjOobKnwaAk5h5wbHV3syPrW6V+"
+    static final String[][] TOO_LONG = {
+        {"3",
+            "ks7KogOD85OQHA3sNfFBEOGyR0gL2Ohk/9Dpc+E8059wXIo4bodD4EpNb3RnAFRgSBYC8dh7XCjOobKnwaAk5h5wbHV3syPrW6V+"
             + "n8i6By+htqrEn3A0pG9MEXuW+D6XX/2V5fAE7oyofD5YehaEpFkWCci2lgHhKFn0VEQwOLjINyqgKZeX5o/zY/UEH57mm19jP9Ps"
             + "kkQb5g1zzSVAP3sFiztFgiG8d8vOKvbpSda+IBzUOk5WG4vueoGFZ83Bp/AYPJ6SpqixkVuLXWzfTCtvxMuQneNk+ljeej85I6fQ"
             + "L52VtTHuWalu/XEtjv74FjcMIzP7xQiPpU30Ius4NCFf2K2Xig7vLgoXiNPU5vHMhginlhHtcD+KFlGvcyStyzIw36IKn3KqsNjF"
@@ -212,9 +243,9 @@ final class Vectors {
             + "2U15h2zkE/rJAFrDVSY597PtJ/lJERMDCCXC80vwaNkgmRF1dK4UhaJ8ZuIoiOCvr65IN/V86V0qh0mOTGQqs7YAW9Dth5fcSpLL"
             + "2axj++Jb4QQkauK1MfKRY4aUPhk0qt9NRWIH5ZPY9Oa1DnomQRf4m0sXoxNPBYe0ks/3z+eNXiq7eTd+2LoDXN1OYl1X+tch/W5e"
             + "FONZGNm+HyoOxFAUGx5DUmePkZulqcEIDBQeJDRGT2uIjpu+zeztGhtOa3KNnKrL1NXZ9/4CEDM2Nz1SXl+DiovJzd7l8AAAAAAA"
-            + "AAAAAAAAAAAAAAAAAAAAAAwcKjs=",
-        ""
-            + "kvRPrhiRWtzJmCBtRHp3rjvHtveDWlYorXy91QFJs6FVmNswrlk6Zijf2WQLgH1AetqFmZaL1wFvXLBrJePfCjnwfYN+dmG7zjJh"
+            + "AAAAAAAAAAAAAAAAAAAAAAwcKjs="},
+        {"4",
+            "kvRPrhiRWtzJmCBtRHp3rjvHtveDWlYorXy91QFJs6FVmNswrlk6Zijf2WQLgH1AetqFmZaL1wFvXLBrJePfCjnwfYN+dmG7zjJh"
             + "T7eUzWcpuq27B022Im5nOjjZaIjbykUidBEH1x+AiZyVmPaKhyjR5o5GY4XG7TnFqjtwcCsZamRUtJGZz8i9CdFmjK4GZ5LgduH4"
             + "B6Y+qu7jitFvfIixKxYUoytgKVjDKFzuE22B6tgFvp22lQoJIk/xFjTyrYg6IhKSLtACW2xugyfWf+xZfuXxZfYdDSeTXMcq3S9b"
             + "OYWDTjSLu2Tb4xrhXlue+6xl3zLTT0N6Rqx+5G5Gr8FumW37exyFxMBlvl1mg1YKFOxXAqp3bP1bsAfoCGhdt9pjFAWZPhnMKOvn"
@@ -258,9 +289,9 @@ final class Vectors {
             + "0EY16nKSBJh4+3ocuIp/BLgkYQSCf/PVjTHyhz9wESZFDhEctM3/IsyhDASLX7XDkwbQn1hqIFqvfTPWTVa6CFaZE+1+Jd4Vw71S"
             + "N7MFi5rK3Fw3fjWFBWNVZG5eWJQwVUUEGsM441utc4xAzPRNgHoB3j+ba2dY8ukcnWeGLoyZY2wJWPOuXQyKRUjh4QUF3jb5ep83"
             + "nupn/nXA0pXpGKa9omp3lRR11BBSFw2G1twABBwkYqGuytgButXeLWl1d7/v/wxDXbbH1/wEHz1ueHv1AAAAAAAAAAAAAAAAAAAA"
-            + "AAAAAwwQFx4l",
-        ""
-            + "1hvFxuavP8UDT88KuumrDtRxi4U/htzX19C+Yw2nhaLp1oaSE6ae7yehU3xTzWLYEQ1wREMciH3n7tBp4aq7mZ6Lz/ZsFzquPwap"
+            + "AAAAAwwQFx4l"},
+        {"5",
+            "1hvFxuavP8UDT88KuumrDtRxi4U/htzX19C+Yw2nhaLp1oaSE6ae7yehU3xTzWLYEQ1wREMciH3n7tBp4aq7mZ6Lz/ZsFzquPwap"
             + "MH8L0H4CsxV2ZAZivA37eFfA/4bsK4YT2lz3q6DSa+tZrFu8VZLiK53FbX7CBOoLwqmHg6jfjyyBgxBTlEJJpEV8pLoQzZ9U+gqx"
             + "Vp+9C+dxLslbk4gWgMIHkwhzncMCNJmjfc6uY6rXeCeUbirmWKbCbmQJ54zrPCsCgs8RPi965eAZvoLOJsuq51gLjYWE4c7bzgIG"
             + "2XeUZxIosRwfXZSYmFYSElLxlUmFq8Op7+rKycBpU5qPyUqcbsSVYPlPUvJJ60hhiYusS9uT2K2qhwYuMVUDoi7lbnC6idW8+17f"
@@ -321,7 +352,84 @@ final class Vectors {
             + "SXJNONbfo7GTEgtqOtBUgRXY5buU9t2Eh+wZUNDayZLmh6Gv6DUSDlsOurY3JQclUkTATi0/n7o/Bc6Itz5VGm/DPL00fdrfL5lc"
             + "u4S1eUoo6P0yfXvEHQtj5ZgRg86zy7jeIgKjgdw3lb6j+AzP87RmH6cGIWjlGTsLRnajnErJHW9I1eDIMYTx3nU7MqlhDiNpa8Sz"
             + "Hs+eIBEgMa6wAVje93NkDTjx1UEu4kyqrwM8zRl6V6AR3fwuepY9Z4mLHKMCDSx7fMdVgbnZCRhGS1xw9hgzPluFrMHKHSmRouLn"
-            + "hYeXmb3+Ghs1SHCDqK/CxnKWqwAAAAAAAAAAAAAAAAAAAAAAAAAAAAAAAAAGChEZHyUvMg==",
+            + "hYeXmb3+Ghs1SHCDqK/CxnKWqwAAAAAAAAAAAAAAAAAAAAAAAAAAAAAAAAAGChEZHyUvMg=="},
+        {"3",
+            "xL1C/wjaH+PCq5FARyRPCmG3RhvDWV/gBMmyGiDFXrQ+euksCrIatABbJ4UFctRw6CET0hRBChRxpG60P0GH2LUl+qUNhgBVvTYt"
+            + "VsvizWE60gzHSlo1hnCEZPiLDiwR5h0ezS710e1bzl6EepQ2XAqs86loSpj+NJu+w0+OShHoT8y2Gg+oPjOOxqAGaNriqdL9x9dx"
+            + "JBa4xwcOyFltlPdy5gwV4eyb6/yli994msP/22D3N0JlBtU/niO7B0YyqGLhXc4u2Fk1vNcsHzAtXxtCWuvo9w3sUp/++ZUgxGFg"
+            + "SjC1wZuLDZM//Gk09Jw5oKA/tQpqdbb3okdR6SGwiQJXrs0SgFsYfRDX0dHQ4pU2MJvmQXmmbijQ40IbIq26vewUZcLg7Jfu5S7t"
+            + "d1PWo+IU31OlZ0hUQOAD3+caKgM8BiIt4+14j0va2ypZzqJoCUnquZuPFSM6BdOONEJzty3XySF/n2swPghvI1o3RqH5Ma0tlJ1k"
+            + "4g++vbh/cdLG5GO5N0BHMoEjpGTGncIVuB7o5NcW2RjVhI6JFlHfbL5SujHNQk2lgvSpedVDoHUK3Yg2ZgZPVINKg154Tv86Kg5w"
+            + "FubvFCv5GFnX9h9zp5+wRaG2ofBsuOIwDfT1/KflZU4KJOdQPq1M7aIjJ2JNUfKIZSi+kRy86H3oQCreekk4l3W/zsFzUkDMJK+Y"
+            + "Zq4xutQbNi+448NUOeRnti5ptGCCYKhvrC3lF5O4IUIC2aIZVSAuVYUZe+wheZBKfvQsxVdFR5mzeXNlKs7ZbYjKbfjPBQI0tWDF"
+            + "iMzxzMK0ib4JZAJLWdIHQpFB5NXXYLJcmF1uOCQRfUocglaudwByqIqN2q4RmGd+voBv5uzxRoesBrcvLaBOfRwXOOsGiiUZV5R8"
+            + "wGZcOa3U7tNRO8N5A8FOW7yj9YMtT/1NPL4By9lC4dkt/wz3QW6Da1Rps1MNbpfFxceIaIYQJHTEKkxyk/Hygd9ab/fbLqnWxvu5"
+            + "HsZtg2GLt1MVCvHND10m9KpUkLre+jw3TJ0IgOqY7RLLwqQoVZ/Go9J+GQf9O/jtZjCfRHVnAyE3FQylHo2SRJAp/nlHGdspSfba"
+            + "ZJf0nQXwatZLUUFyZsSBEt4QfhGHgflz8dhf2PSHvpsqxpu3qT45u7zjDE2TBy6MeJ30CeZaCLAVGROseMW5XcDWqyTiWZMkGEIN"
+            + "NQDIGuP0/fhbpNtHfylmmUqH6LxEWPU9JXuPoyDiRBxoN3ZEXhJ3rZ9r5ndGcTMpV2Q8RRLfxliFT7lzDS0uuZm2DzCXu/LJYZIf"
+            + "m27hkTLEcT8852ENFcMEtgv+0LPBRSdL6q0MASyysVS6NZlC6BA0l2r4kNadu/otRamg5CLxvUWRQ8Rfa7PSlBXZrNKtBBZ3fXWf"
+            + "XMe34WH8cGampUDaJqSAiMHn3Nzh6ooGZnd75PT1rrYW2LmNUHfCUSAKwmeHR6IN40/+vNhCzNYSH8UGVarshfgXZlhtLVrhmTwb"
+            + "gV4cgaEgJEzeYcfpnMQVxDip3+OEN0F6GeYtzcr2HXQYyI3jVrwzcqVo+n8UBRjV2MhOzI8kKdMv0A5ALpBBAj9pe8pBJWjGQbB4"
+            + "Wx17a9BtvlLfmVmidigpgSeS7P+LEoImmY3xDE1AMQgaZMqTDbgtNlkf6vQGl0nZ/U5PnV9POVs44x3NJTf530XSMDiQ2JOA2DHQ"
+            + "WtaeRx58ie0JHYMyqLi5FR9GgNygpfG8NtlKd2HoOu0Fr6GR4KrBRk7g9v6pS7BPFyWfUDuo24hPhfx2nXqWFMUo0/Y/oOpUFpyJ"
+            + "Yd1nStnj8GYWbd6jorib6DzFsSgSXpgWUIMLX2fopkal9AK+gAiTZCiB9pR3pmd7/gNEszYfnvNoB5OxuOWlQ6nVHORuY7msylSt"
+            + "TPT5gUsnF+S8Ohs34CVQAYgGsBYEVNpv/a+BKVlMKBWbGVUw4ged2oSugdG7AELjtx+59A/QYcFFQIAly7zuIOanRF7oxUFk15dH"
+            + "Sxz1JzOn8Rzrr9+7m4aHp6S3CWYONHKYTLYGoXoPyac3x4BZQVEZ0zEdtkjLQPFW/KAZMhyxx0phec6ujzAnFCZMYWA616SSdb1m"
+            + "XFkxMqNKZLWx24GGt0NV20oe3/e3DuzaOspFSjyeQNVvZ6yJXOwi9JMa3wRDwXBThqBPSVacG4cvIZdMG+iciIgclEdFf6nglRWz"
+            + "rNxIt1iVjxlGh0HZ7CrCX+uhOYRXfYu3WnPNDZJ+aVXuQPOLThxXenvpOS9Aiud5rPocfbNB4Ss2WjZ9p3LELNxKV/kz9exgPDc7"
+            + "YkfS9lvolNzEDo6QCVRWmCjDu3cYf2fkkFggDI0/ZuJwOp64HZiq4IdbQlb7OnBgJpbBVbsBgPwObveUoBbklLovvpO04n1isPKN"
+            + "Utmrxt6RpBBmIAoBBrc6oalaFN5Xj5pxR8KrPakJYLPYH2avBeE1UUsKnLfpkRT6Huzraq8f1zLGkcLALey3y6BTBEUVfJYbO9Cn"
+            + "HTnT4gZRmlIbgc0Mioqz7gBEc1j07ZYgpb7s9fE2PHk/HQUsbkZA0AWw5Cyg7X9Tf9YctmvbiruCsEqmxcgtkuZkNFByGNecAW8w"
+            + "B5N+kiqjrrF9lbGlJdEsMiGFNvCf9d/PoftKsQMqcdA3eVWK7mgHHencoeFhrYXb2+0flEcaRZFKr0epIi0cD6RVjP/tVdH2pY4U"
+            + "umqx5p9jipgw5vxdNPwhcKUfJK6QmCbrfFyAs3UQQLPD2aZh8c+y0/wSpFcUMXblYUjR1HkYV4+EifQqwj4Lj8oVAySOGXX1XyzX"
+            + "TkB2YNPWjjjj4CcgqsxOdHAFGqabmCrJSvNjnMVXw72rE4+jXPKWJLJadPH22kbsFavorToELy63onwSAPKPEvvG/E9B3l2Fikmn"
+            + "BJvrg5X+yrC6UMxVj8JZZ+4nJdnhu43EJI99eC0PGnnerb+XcTLGQawN3G0CcPfRCkFJPp/tGYc3wr/Jr9cEsUrSYczLgFw5hsnX"
+            + "V7B1Ysvm1Q83eb9WLrXhBU9Vq6VHtjiXDWxBvNvJxlT7nXJtIQl840YtUi5uqT0o21PgknOnkXeY9da8Pb9lvfvGX+rP7p+o+IJ1"
+            + "qfd9ww2w8NTAIvsTKS5BU2t1eZegrLHN4e3xEBw2R0xQW2BkgYeKl6Chpq+0t9zg4+Tl/0JRYHiAho6hvdLk6ewUHTpERkhbaYmQ"
+            + "oefwAAAAAAAAAAAAAAAAABApNkM="},
+    };
+
+    /** A good signature of nothing under "edge keys 3" with a hint where the rest is 0: no honest signer makes one. */
+    static final String HINT_AT_ZERO =
+        "n4feWr8UyzVdw/E8O7pxZoWijw0t6alQAOZFRbfQLn6IaPwlTxg4/HxaQiQdvjbU9HU5clJciRnLrBYH3F0Bi/OkKHBs2XWnVkJ6"
+        + "tlm4OKQRuOlLReWdGlWLbelnKrUVIDkACK75I6gT8wVMWQrBzF51I2F50Dak7YUyfDkshDe2qYufpLRNPtoFPP77wiMTuJ2BH6un"
+        + "LikugcSdgeDHW6DpKN8Eh6EkxeHAdisEeDNkpE7vctWXLw7QEswGXlwjcussWAq8N2Kf5YSluRStC8j9gJS/BwWd9bbvRGP/pjqw"
+        + "XRBwdS3bgAC070Z3wEiytpwA/o9jdUg8nJ6oTHT187VGXkR80/hsJrQc5CK1DxrNx7Ad0dfgtPRgEaaeA7jIiwU7jQeM3pfQzNEy"
+        + "59T8WV6eiRq8ju5V7eSwWpt8HXTHbi4tWJ+YHVsFf45tMXK57kPjmblxu1nDIkyETZpwr2v2Om5/947FLpw3ryPhydXVsgQ14pUt"
+        + "Lf1VO5MLtyWBemcrSZWfg+EPfg4MhFXudf9kc5SS6o2F7BogmNNzqUBGXPvg8rhTBUP5eznQQyqsNK8e17aZ52avR99NMf/nlxYX"
+        + "GLSlBxiwTdW9bcnEHx8m5/UrDpVJwa6gu+8uZKZc09kB5Be+6mro6tNqnJOnFZaQ0m4xKgi1OHmFzMY9Bw6hZPkanzgV9ypMRTgX"
+        + "5GJDK86GiRgAkIY8no2wvF9gSBfVWlnDZrgTNMFn8q5FOSYrK8judzKLuxNnODvcu4+G2vyBzxEWqmJQZZ9i3W/t6p0ZXDe3GJmL"
+        + "he2oX4CWdEUsicvzV6cBiQOg9sUNzxEMRph9wYteiFINtyVqRM6A8MsnYNW0nluk2EIcGDZUdohlm+bM8U5T/20nbmJYoY64y8YW"
+        + "b9jBKMXGmTvVGtL97KhdMRJcqKxeHV/ogoVkGnUNdh9DBMQJt/oakXVZcEyGBHSFH4Cy+5roSv4cudWbjGZeo4be+qZXZhmpEQLa"
+        + "Jg9n2+P94sZkxLfjXXRA7MOAMCLI1/M7DrWxStNA7Ut185UpQNBmycRo8sBdgRmTFwAsxBxBmY0LMmBxqmdc3pwq4GDBasbd+qkY"
+        + "b/FJfyGp3kAF3NSyNTIINBgaRuHxKHcbFLo0sARcV3XBf44FCXOgan6nTWWWpmKAGmLIOO1Sxeu26PDC4M6ON5pnyHN/WbkzLGMt"
+        + "3hQCZlgsuyS92wV+tMmNjckghk7fL4EAK9YJrgc1ReUGDaun0P82l2TBv9gugJt7tJYdmP4pZdIxjsdlRYtPOLpbJ5MSbZJXPSyb"
+        + "1uwaEOo7fbivfvltVUlxocB8EGjTExewDVbE+jZzK5hr4c3VZNl8zWOdsjmP8VlpsoG8yhck49PKEiBqpS90wtJX/n9BfTe8LSCW"
+        + "6f2RZbOilj2H0FnYjDIhx7CG2bzgUHPxDIXtSc2Gn86AeWkTIMNCPVixLhFqDtICSihgvCQKYhopE7VJpZBYGBgbViMbh/sOyWW5"
+        + "Qk35suPQilPJYYbdF4zVNDYIUxYSxlDHQtHGDwaFiBaMZZy9FHvOFYcr9r7bYAcaBzbYe6Z2jDhMv92XpT9bRRsz5yAkh1wXfa7b"
+        + "3P1xlBec20hAEgOyJYWS/ADoLrrLHChJm03H9zJQvxek6o+qId8UpnxQRlETYECnyYKn9WeTxmymdGEEt9KH5iHZuia3DZysAEgG"
+        + "5Cd38QhWB9W1Kin4TdbHrIceWvAmIWrwZcRoL23J/a25trSh3vWDf01Gfqfly85ewhXtGHInwJFxCGXpM7rfPyDctK4QGB7FvpNx"
+        + "GZ1boWw+1XJHMevSW0bm5B726xoveVcOGudml9LLIyGlKWhneuD1rhAqMlSfSpixZeTJ+Q92QhEqkLgaU5OviJj6K+ANt0VFYxfN"
+        + "WZPl0LkjUYsTwn75O4cMqUnbr5KrsNH9TlWjRO4mrjRzc8fZEsPYRbCz9w41rcohhBk7RiOeTxvOcBUWYEnC1dw5MPQ7HpTRDvjU"
+        + "5cE2uUrFFz76/FIoPOKrrTa0ewp8FLDBVWGdPHj9Vx6MfDXJ0qON6yod/Rmbgq86lzPm2Sxg7H06AqVzFdJQBe8FcNbNwIXv+K0w"
+        + "vhoEeJgzXrf9ObFtoShvQmajVuSeGdg7kcmtGIinEvU1rFPIy+aKdVZRVjxVICFisQR1s8trG5c5zTlqXLKBUAzZzSTinpAWc9he"
+        + "EX0677XrBgZaIwtggoSOW9TUff6n/LZ4QFSKBw0mEa3XsuWECx2ju0nI6MFmnfKbfkC5knqw56KIj0bqc9L/enLYgzgHwTjjAQPN"
+        + "0iz7a8YA+rPK535rMkfyRtutkIIh14IfyQDBHxkZrtv+jMSmSP6E+rrAX1ncL+J3oKqPE9JLu5CmNJMySt5UMrL0ncHnku9kUjx+"
+        + "GyK0vLjGfFJQO5F5oxUi6q2xsbqQp1NgyinXJFVJhfDJFUD2H/z9dF+Xsz73KAYmarWBW1x8/mhqLP8zJ+H42ufTXs1bNx5XfRiO"
+        + "MtH1ppTqv55B184Wq1hPIgE+yHyWUoHwfVfdgU+7EaELHmlbKq65HB5/DsoLuXUJJr3oz/bBRzcEfTEI44E9W5X/8Lg/EUbSbjD6"
+        + "2b1v8ZwlB5akvMA22XbWK6XmcAu995gXLlkbdrrQ3+DgfgvRIPjeNy0sC3NAE/MF59NfgnrBROEYvqRHikpiEt5JT8a61Fh1cSiE"
+        + "gy9MduZI1PpBt7kPaRqWNjVD2d3AseBGAixUFVmk+TPZyyKRCe9Jkza1be66JkjaE4AD5DnkJ1fEox3Iihgf5n+l7Rt+LGEbjxY5"
+        + "k5sY2Szt8qafCVUb3bESqaH+TNLPrwyuwiGL0ZVe0hXfvCNFmXz0G+EFA68btJ2XgxPcqG8uEtRAnWTitOk39HhF1JriEX/rbiZS"
+        + "4Kwbp/0CeKbuLVklB92mFqexje1aHcy19B0EdrkBaO4hVO7EZCjhlAhmccvoqVzznCwJOz371KzaPBryU0YQGu0FD6l5PEQt3dEa"
+        + "2gFtfmyUxpy7vyc4Ut/gkSmTvayh1oNtCh5QYvc1Ac3YdrKS54K9948DbEuT0gBvoExrDBb4m7ZOgXyKnP3uLt5Bf8gz0QGDQcsy"
+        + "/ndsz+eENnWYkcAPICY6RUdcgIOElLK1uNrv8P4DCwwPH1Bjk5yu19vd4PkCJDI6UW5/gYKPkZOZo62vsMHe6gEFZG13eZy+y/sA"
+        + "AAAAAAAAAAAAAAAAAAAAABIhNT8=";
+
+    /** Keys whose matrix is drawn with the modulus itself among the numbers: set, case, SHA3-256 of the public part. */
+    static final String[][] MATRIX = {
+        {"3", "1483", "c3016b926b8f49110a571a508f2e717fc3bfb95debdf4a3c15bf55568ecc9c97"},
+        {"4", "1207", "9c87d179d8406657663fb74e497d531a4ab5df144d0ea0762123e54ca5eaff3c"},
+        {"5", "245", "3547af9c217451d00f0f65902b4f35355cce8eab2530f18aacd047cc8ae2f59e"},
     };
 
     /** Kind, length of the input ("shake"), length of the output, SHA3-256 of the output. */
