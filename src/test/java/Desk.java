@@ -22,6 +22,10 @@ final class Desk {
         return keys;
     }
 
+    int calls() {
+        return calls;
+    }
+
     /** The tape is these bytes. */
     Desk tape(byte[] bytes) {
         next().end(0);
@@ -58,22 +62,44 @@ final class Desk {
         return next().alter(i, 0);
     }
 
-    /** The whole tape, by one call a byte. */
-    String tapeHex() {
-        byte[] bytes = new byte[next().count(0)];
-        for (int i = 0; i < bytes.length; i++) {
-            bytes[i] = (byte) tapeByte(i);
+    /** Bytes of the tape, by one call a byte. */
+    String tapeHex(int from, int count) {
+        byte[] bytes = new byte[count];
+        for (int i = 0; i < count; i++) {
+            bytes[i] = (byte) tapeByte(from + i);
         }
         return Check.hex(bytes);
     }
 
-    /** The whole result, by one call a byte. */
-    String resultHex() {
-        byte[] bytes = new byte[next().count(2)];
-        for (int i = 0; i < bytes.length; i++) {
-            bytes[i] = (byte) next().result(i);
+    String tapeHex() {
+        return tapeHex(0, next().count(0));
+    }
+
+    /** Bytes of the result, by one call a byte. */
+    byte[] resultBytes(int from, int count) {
+        byte[] bytes = new byte[count];
+        for (int i = 0; i < count; i++) {
+            bytes[i] = (byte) next().result(from + i);
         }
-        return Check.hex(bytes);
+        return bytes;
+    }
+
+    String resultHex(int count) {
+        return Check.hex(resultBytes(0, count));
+    }
+
+    String resultHex() {
+        return resultHex(next().count(2));
+    }
+
+    /** The last bytes of a part, by one call a byte. */
+    byte[] partsEnd(int number, boolean secret, int count) {
+        int length = next().told(number, secret ? 2 : 1);
+        byte[] bytes = new byte[count];
+        for (int i = 0; i < count; i++) {
+            bytes[i] = (byte) next().part(number, secret, length - count + i);
+        }
+        return bytes;
     }
 
     /** SHA3-256 of the result, which is lost by it, as is the tape. */
@@ -97,9 +123,59 @@ final class Desk {
     /** Keys of a set in few calls, all of the same seed. */
     int quickKeys(int set) {
         next().end(0);
-        next().hash(3, set < 3 ? 64 : 32);
+        next().hash(3, Sizes.seed(set));
         next().again();
         return next().keys(set);
+    }
+
+    /** The public part of keys that are there becomes keys of its own. */
+    int loadPublic(int number) {
+        next().end(0);
+        next().show(number, false);
+        next().again();
+        return next().load(next().told(number, 0), false);
+    }
+
+    /** The result is so many bytes of SHAKE128 of nothing; the tape is lost by it. */
+    Desk result(int length) {
+        next().end(0);
+        next().hash(2, length);
+        return this;
+    }
+
+    /** Length and digest of the tape, which is lost by it, as is the result. */
+    String tapeAccount() {
+        return next().count(0) + " " + tapeDigest();
+    }
+
+    /** Length and digest of the result, which is lost by it, as is the tape. */
+    String resultAccount() {
+        return next().count(2) + " " + resultDigest();
+    }
+
+    /** What is told of all keys, and a digest over all their parts; tape and result are lost by it. */
+    String keysAccount() {
+        int count = next().count(1);
+        StringBuilder account = new StringBuilder().append(count);
+        next().end(0);
+        for (int number = 0; number < count; number++) {
+            int secretLength = next().told(number, 2);
+            account.append(' ').append(next().told(number, 0)).append(' ').append(next().told(number, 1));
+            account.append(' ').append(secretLength);
+            chain(number, false);
+            if (secretLength > 0) {
+                chain(number, true);
+            }
+        }
+        return account.append(' ').append(tapeDigest()).toString();
+    }
+
+    /** The tape is the digest of what it was and of a part. */
+    private void chain(int number, boolean secret) {
+        next().show(number, secret);
+        next().again();
+        next().hash(0, 0);
+        next().again();
     }
 
     /** Lengths of tape and result and the number of keys, in a text. */

@@ -1,36 +1,22 @@
-import java.lang.reflect.Field;
 import java.util.Arrays;
-import java.util.Base64;
 import java.util.NoSuchElementException;
 
-/** Promises 13 and 14: sign and verify. */
+/** Promises 13 and 14: sign and verify. Their boundaries are in DsaEdgeTest. */
 public final class DsaTest {
-    private static final int[] SIGNATURE = {0, 0, 0, 2420, 3309, 4627};
-    private static final int[] ROWS = {0, 0, 0, 4, 6, 8};
-    private static final int[] MOST_HINTS = {0, 0, 0, 80, 55, 75};
-
-    public static void main(String[] args) throws ReflectiveOperationException {
+    public static void main(String[] args) {
         for (String[] due : Vectors.DSA) {
             signaturesAreAsDue(due);
         }
         for (String[] due : Vectors.EDGES) {
             edgesOfTheLoopAreAsDue(due);
         }
-        for (String[] due : Vectors.TOO_LONG) {
-            anAnswerAtTheBoundIsRefused(due);
-        }
-        aHintAtZeroLowersTheStep();
+        aRestThatIsTooLongIsPassedOver();
         keysDoNotMix();
         for (int set = 3; set < 6; set++) {
             whatIsAlteredIsRefused(set);
-            theContextIsBound(set);
-            hintsHaveOneForm(set);
+            aLongContextIsNoMessage(set);
             aPublicPartVerifiesAlone(set);
-            wrongSigningIsRefused(set);
-            wrongVerifyingIsRefused(set);
         }
-        otherKeysAreRefused();
-        tooLongALoopIsGivenUp();
         Check.finish();
     }
 
@@ -45,11 +31,11 @@ public final class DsaTest {
         desk.next().keys(set);
         desk.tape(tape);
         Check.same(what + "sign", desk.next().sign(0, n), Integer.parseInt(due[6]));
-        Check.same(what + "lengths", desk.lengths(), "0 1 " + SIGNATURE[set]);
+        Check.same(what + "lengths", desk.lengths(), "0 1 " + Sizes.SIGNATURE[set]);
         desk.next().again();
         desk.write(Arrays.copyOfRange(tape, 32, tape.length));
         Check.same(what + "verify", desk.next().verify(0, n), true);
-        Check.same(what + "verify takes the tape alone", desk.lengths(), "0 1 " + SIGNATURE[set]);
+        Check.same(what + "verify takes the tape alone", desk.lengths(), "0 1 " + Sizes.SIGNATURE[set]);
         Check.same(what + "signature", desk.resultDigest(), due[7]);
     }
 
@@ -87,13 +73,13 @@ public final class DsaTest {
 
     private static void whatIsAlteredIsRefused(int set) {
         Desk desk = signed(set);
-        int end = SIGNATURE[set] + 12;
-        for (int at : new int[] {0, 31, 64, 700, SIGNATURE[set] / 2, SIGNATURE[set], SIGNATURE[set] + 2,
-            SIGNATURE[set] + 3, end - 1}) {
+        int end = Sizes.SIGNATURE[set] + 12;
+        for (int at : new int[] {0, 31, 64, 700, Sizes.SIGNATURE[set] / 2, Sizes.SIGNATURE[set], Sizes.SIGNATURE[set] + 2,
+            Sizes.SIGNATURE[set] + 3, end - 1}) {
             lay(desk);
             desk.next().alter(at, 4);
             Check.same("set " + set + " altered at " + at, desk.next().verify(0, 3), false);
-            Check.same("lengths after it", desk.lengths(), "0 1 " + SIGNATURE[set]);
+            Check.same("lengths after it", desk.lengths(), "0 1 " + Sizes.SIGNATURE[set]);
         }
         lay(desk);
         desk.next().end(end - 1);
@@ -103,82 +89,30 @@ public final class DsaTest {
         Check.same("set " + set + ": a longer message", desk.next().verify(0, 3), false);
         lay(desk);
         Check.same("set " + set + ": the right one", desk.next().verify(0, 3), true);
-        desk.fill(SIGNATURE[set]);
+        desk.fill(Sizes.SIGNATURE[set]);
         Check.same("set " + set + ": any bytes", desk.next().verify(0, 0), false);
-        desk.tape(new byte[SIGNATURE[set]]);
+        desk.tape(new byte[Sizes.SIGNATURE[set]]);
         Check.same("set " + set + ": zeros", desk.next().verify(0, 0), false);
     }
 
-    private static void theContextIsBound(int set) {
-        Desk desk = signed(set);
-        for (int n = 0; n <= 12; n++) {
-            lay(desk);
-            Check.same("set " + set + ": a context of " + n, desk.next().verify(0, n), n == 3);
-        }
+    private static void aLongContextIsNoMessage(int set) {
         byte[] text = Check.stream("long text", 255);
-        desk.tape(Check.join(Check.stream("chance", 32), text));
+        Desk desk = edgeDesk(set).tape(Check.join(Check.stream("chance", 32), text));
         desk.next().sign(0, 255);
         desk.next().again();
-        desk.write(text);
-        Check.same("set " + set + ": a context of 255 and no message", desk.next().verify(0, 255), true);
+        Check.same("set " + set + ": a context of 255", desk.write(text).next().verify(0, 255), true);
         desk.next().again();
-        desk.write(text);
-        Check.same("set " + set + ": the same as a message", desk.next().verify(0, 0), false);
+        Check.same("set " + set + ": the same as a message", desk.write(text).next().verify(0, 0), false);
     }
 
-    /** Each altered form tells the same hints, so that only the form's test refuses it. */
-    private static void hintsHaveOneForm(int set) {
-        Desk desk = signed(set);
-        int ends = SIGNATURE[set] - ROWS[set];
-        int places = ends - MOST_HINTS[set];
-        lay(desk);
-        int first = desk.tapeByte(ends);
-        int all = desk.tapeByte(ends + ROWS[set] - 1);
-        Check.same("set " + set + ": there are hints to turn round", first > 1 && all < MOST_HINTS[set], true);
-        swap(desk, places, places + 1);
-        Check.same("set " + set + ": hints out of order", desk.next().verify(0, 3), false);
-        lay(desk);
-        for (int i = all; i > 0; i--) {
-            put(desk, places + i, desk.tapeByte(places + i - 1));
-        }
-        for (int row = 0; row < ROWS[set]; row++) {
-            put(desk, ends + row, desk.tapeByte(ends + row) + 1);
-        }
-        Check.same("set " + set + ": a hint twice", desk.next().verify(0, 3), false);
-        for (int at : new int[] {all, MOST_HINTS[set] - 1}) {
-            lay(desk);
-            put(desk, places + at, 1);
-            Check.same("set " + set + ": a byte behind the hints", desk.next().verify(0, 3), false);
-        }
-        for (int row = 0; row < ROWS[set]; row++) {
-            for (int end : new int[] {0, MOST_HINTS[set] + 1, 128, 255}) {
-                lay(desk);
-                put(desk, ends + row, end);
-                Check.same("set " + set + ": hints of row " + row + " to " + end, desk.next().verify(0, 3), false);
-            }
-        }
-    }
-
-    private static void swap(Desk desk, int one, int other) {
-        int difference = desk.tapeByte(one) ^ desk.tapeByte(other);
-        desk.next().alter(one, difference);
-        desk.next().alter(other, difference);
-    }
-
-    private static void put(Desk desk, int at, int value) {
-        desk.next().alter(at, desk.tapeByte(at) ^ value);
-    }
-
-    private static void anAnswerAtTheBoundIsRefused(String[] due) {
-        Desk desk = edgeDesk(Integer.parseInt(due[0]));
-        desk.tape(Base64.getDecoder().decode(due[1]));
-        Check.same("set " + due[0] + ": an answer at the bound", desk.next().verify(0, 0), false);
-    }
-
-    private static void aHintAtZeroLowersTheStep() {
-        Desk desk = edgeDesk(3);
-        desk.tape(Base64.getDecoder().decode(Vectors.HINT_AT_ZERO));
-        Check.same("a hint where the rest is 0", desk.next().verify(0, 0), true);
+    /** With this chance the first pass is good but for the challenge's share of the low part (ct0), which is 95,276. */
+    private static void aRestThatIsTooLongIsPassedOver() {
+        Desk desk = new Desk().tape(Check.stream("long rest keys 211716", 32));
+        desk.next().keys(3);
+        desk.tape(Check.stream("long rest chance 3790920", 32));
+        Check.same("a rest that is too long: sign", desk.next().sign(0, 0), 19);
+        Check.same("a rest that is too long: signature", desk.resultDigest(),
+                "acf4ef39efb778693bc030d26d38ed1cadcf9d16a53a5555cfeb33e853248c65");
     }
 
     /** Nothing of one set's or key's work is left for the next. */
@@ -228,94 +162,5 @@ public final class DsaTest {
         desk.tape(Check.stream("chance", 32));
         Check.refused("set " + set + ": it can't sign", NoSuchElementException.class, () -> desk.next().sign(1, 0));
         Check.same("the tape stays", desk.tapeHex(), Check.hex(Check.stream("chance", 32)));
-    }
-
-    private static void wrongSigningIsRefused(int set) {
-        Desk desk = edgeDesk(set);
-        desk.next().hash(0, 0);
-        desk.tape(Check.stream("long", 400));
-        for (int n : new int[] {-1, 256, 368, 369, Integer.MIN_VALUE, Integer.MAX_VALUE}) {
-            Check.refused("sign(0, " + n + ")", IllegalArgumentException.class, () -> desk.next().sign(0, n));
-        }
-        for (int[] wrong : new int[][] {{0, 0}, {31, 0}, {32, 1}, {286, 255}}) {
-            desk.tape(Check.stream("long", wrong[0]));
-            Check.refused("sign of " + wrong[0] + " with " + wrong[1], IllegalArgumentException.class,
-                    () -> desk.next().sign(0, wrong[1]));
-            Check.same("lengths after it", desk.lengths(), wrong[0] + " 1 32");
-        }
-        Check.same("the tape stays", desk.tapeDigest(), Check.hex(Check.sha3(Check.stream("long", 286))));
-        for (int[] right : new int[][] {{32, 0}, {33, 1}, {287, 255}}) {
-            desk.tape(Check.stream("long", right[0]));
-            Check.same("sign of " + right[0] + " with " + right[1], desk.next().sign(0, right[1]) > 0, true);
-        }
-    }
-
-    private static void wrongVerifyingIsRefused(int set) {
-        Desk desk = edgeDesk(set);
-        desk.fill(SIGNATURE[set] + 300);
-        for (int n : new int[] {-1, 256, 300, 301, Integer.MIN_VALUE, Integer.MAX_VALUE}) {
-            Check.refused("verify(0, " + n + ")", IllegalArgumentException.class, () -> desk.next().verify(0, n));
-        }
-        for (int[] wrong : new int[][] {{0, 0}, {-1, 0}, {0, 1}, {254, 255}}) {
-            int length = wrong[1] == 0 && wrong[0] == 0 ? 0 : SIGNATURE[set] + wrong[0];
-            desk.fill(length);
-            Check.refused("verify of " + length + " with " + wrong[1], IllegalArgumentException.class,
-                    () -> desk.next().verify(0, wrong[1]));
-            Check.same("lengths after it", desk.lengths(), length + " 1 8192");
-        }
-        for (int[] right : new int[][] {{0, 0}, {1, 1}, {255, 255}}) {
-            desk.fill(SIGNATURE[set] + right[0]);
-            Check.same("verify with " + right[1], desk.next().verify(0, right[1]), false);
-        }
-    }
-
-    private static void otherKeysAreRefused() {
-        Desk desk = new Desk();
-        desk.quickKeys(0);
-        desk.quickKeys(1);
-        desk.quickKeys(2);
-        desk.fill(6000);
-        for (int number : new int[] {-1, 0, 1, 2, 3, 8, Integer.MIN_VALUE, Integer.MAX_VALUE}) {
-            Check.refused("sign(" + number + ", 0)", NoSuchElementException.class, () -> desk.next().sign(number, 0));
-            Check.refused("verify(" + number + ", 0)", NoSuchElementException.class,
-                    () -> desk.next().verify(number, 0));
-            Check.refused("sign(" + number + ", 256)", NoSuchElementException.class,
-                    () -> desk.next().sign(number, 256));
-            Check.refused("verify(" + number + ", -1)", NoSuchElementException.class,
-                    () -> desk.next().verify(number, -1));
-        }
-        Check.same("lengths after it", desk.lengths(), "6000 3 8192");
-    }
-
-    /**
-     * No seed is known that goes 200 times through the loop, and none will be found: so the object gets a signer that
-     * gives up sooner, and a case that needs 8 passes.
-     */
-    private static void tooLongALoopIsGivenUp() throws ReflectiveOperationException {
-        String[] due = Vectors.EDGES[10];
-        int passes = Integer.parseInt(due[2]);
-        Check.same("the case needs passes", passes, 8);
-        Desk patient = impatient(passes);
-        patient.tape(Check.stream("edge chance " + due[1], 32));
-        Check.same("just enough passes", patient.next().sign(0, 0), passes);
-        Desk desk = impatient(passes - 1);
-        desk.next().hash(0, 0);
-        desk.tape(Check.stream("edge chance " + due[1], 32));
-        Check.refused("one pass too few", IllegalStateException.class, () -> desk.next().sign(0, 0));
-        Check.same("the tape stays", desk.tapeHex(), Check.hex(Check.stream("edge chance " + due[1], 32)));
-        Check.same("the result stays", desk.resultHex(), Check.hex(Check.sha3(new byte[0])));
-        Field most = LatticeKeys.class.getDeclaredField("MOST_PASSES");
-        most.setAccessible(true);
-        Check.same("the most passes", most.getInt(null), 200);
-    }
-
-    private static Desk impatient(int passes) throws ReflectiveOperationException {
-        LatticeKeys keys = new LatticeKeys();
-        Field signer = LatticeKeys.class.getDeclaredField("dsa");
-        signer.setAccessible(true);
-        signer.set(keys, new LatticeKeys.Dsa(passes));
-        Desk desk = new Desk(keys).tape(Check.stream("edge keys 4", 32));
-        desk.next().keys(4);
-        return desk;
     }
 }

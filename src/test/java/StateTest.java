@@ -8,9 +8,7 @@ import java.util.Random;
  * throws, answers by length, and leaves behind.
  */
 public final class StateTest {
-    private static final int ROOM = 16384;
-    private static final int[] CIPHER = {768, 1088, 1568};
-    private static final int[] SIGNATURE = {0, 0, 0, 2420, 3309, 4627};
+    private static final int ROOM = Sizes.TAPE;
     private static final int[] WILD = {-1, 1, 3, 255, 256, 8191, 8192, 8193, ROOM, ROOM + 1,
         Integer.MIN_VALUE, Integer.MAX_VALUE};
     private static final Object ANY = new Object();
@@ -119,11 +117,11 @@ public final class StateTest {
         boolean flag = random.nextInt(6) == 0 ? !secret : secret;
         boolean broken = random.nextInt(4) == 0;
         if (broken) {
-            int place = secret ? KeysTest.SECRET[set(from)] - 33 : 1;
+            int place = secret ? Sizes.SECRET[set(from)] - 33 : 1;
             desk.next().alter(place, 255 ^ desk.tapeByte(place));
         }
         Object due = pairs.size();
-        if (set < 0 || set > 5 || flag && set > 2 || tape != (flag ? KeysTest.SECRET : KeysTest.PUBLIC)[set]) {
+        if (set < 0 || set > 5 || flag && set > 2 || tape != Sizes.part(set, flag)) {
             due = IllegalArgumentException.class;
         } else if (broken && set < 3) {
             due = UnsupportedOperationException.class;
@@ -142,7 +140,7 @@ public final class StateTest {
         int i = random.nextInt(3) == 0 ? wild() : random.nextInt(5000);
         Object due = NoSuchElementException.class;
         if (has(number, secret)) {
-            int length = (secret ? KeysTest.SECRET : KeysTest.PUBLIC)[set(number)];
+            int length = Sizes.part(set(number), secret);
             due = i < 0 || i >= length ? IndexOutOfBoundsException.class : ANY;
         }
         judge(what + "part(" + number + ", " + secret + ", " + i + ")", due,
@@ -153,7 +151,7 @@ public final class StateTest {
         int number = number();
         boolean secret = random.nextBoolean();
         Object due = has(number, secret)
-                ? (Object) (secret ? KeysTest.SECRET : KeysTest.PUBLIC)[set(number)] : NoSuchElementException.class;
+                ? (Object) Sizes.part(set(number), secret) : NoSuchElementException.class;
         judge(what + "show(" + number + ", " + secret + ")", due, () -> desk.next().show(number, secret),
                 () -> result = (Integer) due);
     }
@@ -163,8 +161,8 @@ public final class StateTest {
         int which = random.nextInt(5) - 1;
         Object due = NoSuchElementException.class;
         if (has(number, false)) {
-            int[] answers = {set(number), KeysTest.PUBLIC[set(number)],
-                has(number, true) ? KeysTest.SECRET[set(number)] : 0};
+            int[] answers = {set(number), Sizes.PUBLIC[set(number)],
+                has(number, true) ? Sizes.SECRET[set(number)] : 0};
             due = which < 0 || which > 2 ? (Object) IllegalArgumentException.class : answers[which];
         }
         judge(what + "told(" + number + ", " + which + ")", due, () -> desk.next().told(number, which), () -> { });
@@ -174,11 +172,11 @@ public final class StateTest {
         int number = number();
         Object due = NoSuchElementException.class;
         if (has(number, false) && set(number) < 3) {
-            due = tape != 32 ? (Object) IllegalArgumentException.class : CIPHER[set(number)] + 32;
+            due = tape != 32 ? (Object) IllegalArgumentException.class : Sizes.CIPHER[set(number)] + 32;
         }
         judge(what + "seal(" + number + ")", due, () -> desk.next().seal(number), () -> {
             tape = 0;
-            result = CIPHER[set(number)] + 32;
+            result = Sizes.CIPHER[set(number)] + 32;
         });
     }
 
@@ -186,7 +184,7 @@ public final class StateTest {
         int number = number();
         Object due = NoSuchElementException.class;
         if (has(number, true) && set(number) < 3) {
-            due = tape != CIPHER[set(number)] ? (Object) IllegalArgumentException.class : 32;
+            due = tape != Sizes.CIPHER[set(number)] ? (Object) IllegalArgumentException.class : 32;
         }
         judge(what + "open(" + number + ")", due, () -> desk.next().open(number), () -> {
             tape = 0;
@@ -203,7 +201,7 @@ public final class StateTest {
         }
         judge(what + "sign(" + number + ", " + n + ")", due, () -> desk.next().sign(number, n), () -> {
             tape = 0;
-            result = SIGNATURE[set(number)];
+            result = Sizes.SIGNATURE[set(number)];
         });
     }
 
@@ -212,7 +210,7 @@ public final class StateTest {
         int n = contextLength();
         Object due = NoSuchElementException.class;
         if (has(number, false) && set(number) > 2) {
-            due = n < 0 || n > 255 || tape < SIGNATURE[set(number)] + n ? IllegalArgumentException.class : ANY;
+            due = n < 0 || n > 255 || tape < Sizes.SIGNATURE[set(number)] + n ? IllegalArgumentException.class : ANY;
         }
         judge(what + "verify(" + number + ", " + n + ")", due, () -> desk.next().verify(number, n), () -> tape = 0);
     }
