@@ -23,6 +23,8 @@ public final class DsaEdgeTest {
             endsOfRowsThatFallAreNotGood(forge);
             moreHintsThanTheMostAreNotGood(forge);
             theAnswerEndsBelowItsBound(forge);
+            stepsEndWhereDue(forge);
+            everyByteOfTheChallengeCounts(forge);
         }
         for (String[] due : Vectors.FULL_TAPE) {
             aFullTapeIsSigned(due);
@@ -33,7 +35,7 @@ public final class DsaEdgeTest {
         Check.finish();
     }
 
-    /** Keys 0 of the set, a result of 77 bytes and a tape. */
+    /** Keys 0 of the set, a full result and a tape. */
     private static void lay(Desk desk, int set, int length) {
         edgeKeys(desk, set);
         desk.fill(length);
@@ -285,20 +287,18 @@ public final class DsaEdgeTest {
         for (int i = 0; i < forms.length; i++) {
             judge("hints in form " + i, forge, forge.hinted(forms[i], forge.form(forms[i])), true);
         }
-        byte[] altered = forge.hinted(both, forge.form(both));
-        altered[0] ^= 1;
-        judge("another challenge", forge, altered, false);
     }
 
     /** 14: "(One that is not of its form is not good.)": places that do not rise within a row. */
     private static void hintsOutOfOrderAreNotGood(Forge forge) {
         int last = forge.rows - 1;
         int most = forge.mostHints;
+        int[][] wrong = {{5, 5}, {0, 0}, {6, 5}, {1, 0}, {127, 127}, {128, 127}, {200, 150}, {255, 254}, {255, 255}};
         for (int row : new int[] {0, last}) {
-            judge("a place twice", forge, forge.hinted(inRow(forge, row, 5), forge.form(inRow(forge, row, 5, 5))), false);
-            judge("place 0 twice", forge, forge.hinted(inRow(forge, row, 0), forge.form(inRow(forge, row, 0, 0))), false);
-            judge("places that fall", forge,
-                    forge.hinted(inRow(forge, row, 5, 6), forge.form(inRow(forge, row, 6, 5))), false);
+            for (int[] two : wrong) {
+                judge("places " + two[0] + " and " + two[1], forge,
+                        forge.hinted(inRow(forge, row, two), forge.form(inRow(forge, row, two))), false);
+            }
             int[] places = run(0, most);
             places[most - 1] = most - 2;
             judge("the last place twice", forge,
@@ -362,6 +362,34 @@ public final class DsaEdgeTest {
                 judge("the answer " + numbers[i] + " at " + place[0] + ", " + place[1], forge,
                         forge.answered(place[0], place[1], numbers[i]), i < 2);
             }
+        }
+    }
+
+    /** 14: "whether it is good", of products at the ends and in the middle of the steps that the high bits tell. */
+    private static void stepsEndWhereDue(Forge forge) {
+        long step = forge.step;
+        long half = step / 2;
+        long end = Forge.MODULUS - 1;
+        long[] numbers = {0, 1, half, half + 1, step - 1, step, step + 1, step + half, step + half + 1,
+            end - step - 1, end - step, end - step + 1, end - half, end - half + 1, end - 1, end};
+        for (long number : numbers) {
+            for (int row : new int[] {0, forge.rows - 1}) {
+                for (int at : new int[] {0, 255}) {
+                    String what = number + " at " + row + ", " + at;
+                    judge(what, forge, forge.reaching(number, row, at, false), true);
+                    judge(what + ", with a hint", forge, forge.reaching(number, row, at, true), true);
+                }
+            }
+        }
+    }
+
+    /** 14: "whether it is good": nothing but the challenge is altered, and nothing else depends on it. */
+    private static void everyByteOfTheChallengeCounts(Forge forge) {
+        byte[] signature = forge.answered(0, 0, 1);
+        for (int i = 0; i < forge.challengeLength; i++) {
+            byte[] altered = signature.clone();
+            altered[i] ^= (byte) (1 << i % 8);
+            judge("byte " + i + " of the challenge altered", forge, altered, false);
         }
     }
 }

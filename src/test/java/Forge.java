@@ -6,7 +6,7 @@ import java.util.Arrays;
  */
 final class Forge {
     private static final int SIZE = 256;
-    private static final long MODULUS = 8380417;
+    static final long MODULUS = 8380417;
     private static final long ROOT = 1753;
 
     final int set;
@@ -17,8 +17,11 @@ final class Forge {
     final int bound;
     final int top;
     final byte[] publicPart;
-    private final int steps;
-    private final int challengeLength;
+    final int challengeLength;
+    /** The high bits tell so many steps of this length (2 * gamma2). */
+    final int steps;
+    final long step;
+    private final long[][] entries;
 
     Forge(int set) {
         this.set = set;
@@ -29,7 +32,9 @@ final class Forge {
         top = i == 0 ? 1 << 17 : 1 << 19;
         bound = top - new int[] {78, 196, 120}[i];
         steps = i == 0 ? 44 : 16;
+        step = (MODULUS - 1) / steps;
         challengeLength = new int[] {32, 48, 64}[i];
+        entries = new long[rows * columns][];
         publicPart = Arrays.copyOf(Check.stream("forge", 32), Sizes.PUBLIC[set]);
     }
 
@@ -49,48 +54,85 @@ final class Forge {
 
     /** A signature of nothing whose answer is zero, with these bytes for hints, read as hints at these places. */
     byte[] hinted(int[][] read, byte[] hints) {
-        int[][] high = new int[rows][SIZE];
-        for (int row = 0; row < rows; row++) {
-            for (int place : read[row]) {
-                // A hint where the rest is zero goes one step down, from the first to the last.
-                high[row][place] = steps - 1;
-            }
-        }
-        return signature(high, new int[columns][SIZE], hints);
+        return signature(0, 0, 0, read, hints);
     }
 
     /** A signature of nothing without hints, whose answer is zero but for one number. */
     byte[] answered(int column, int place, int number) {
-        int[][] answer = new int[columns][SIZE];
-        answer[column][place] = number;
-        int[][] high = new int[rows][SIZE];
-        for (int row = 0; row < rows; row++) {
-            long[] entry = restored(sampled(row, column));
-            for (int i = 0; i < SIZE; i++) {
-                // Times the place's power: what goes over the end comes back with the other sign.
-                int to = (i + place) % SIZE;
-                long sign = i + place < SIZE ? 1 : -1;
-                high[row][to] = high(Math.floorMod(sign * entry[i] * number, MODULUS));
-            }
-        }
-        return signature(high, answer, new byte[mostHints + rows]);
+        return signature(column, place, number, new int[rows][0], new byte[mostHints + rows]);
     }
 
-    private byte[] signature(int[][] high, int[][] answer, byte[] hints) {
-        byte[] hashed = Check.join(shake(3, publicPart, 64), new byte[2]);
-        byte[] packed = shake(3, hashed, 64);
-        for (int[] row : high) {
-            packed = Check.join(packed, pack(row, set == 3 ? 6 : 4));
+    /** A signature of nothing whose product has a number at a place of a row, with a hint for it or without. */
+    byte[] reaching(long wanted, int row, int at, boolean hint) {
+        int[][] places = new int[rows][0];
+        if (hint) {
+            places[row] = new int[] {at};
+        }
+        for (int i = 0; i < SIZE; i++) {
+            int place = Math.floorMod(at - i, SIZE);
+            long factor = Math.floorMod(sign(i, place) * entry(row, 0)[i], MODULUS);
+            long number = wanted * inverse(factor) % MODULUS;
+            number = number > MODULUS / 2 ? number - MODULUS : number;
+            if (factor != 0 && Math.abs(number) < bound) {
+                return signature(0, place, (int) number, places, form(places));
+            }
+        }
+        throw new AssertionError("no short answer reaches " + wanted);
+    }
+
+    /** The number stands at a place of a column of the answer, which is zero otherwise. */
+    private byte[] signature(int column, int place, int number, int[][] read, byte[] hints) {
+        byte[] packed = shake(3, Check.join(shake(3, publicPart, 64), new byte[2]), 64);
+        for (int row = 0; row < rows; row++) {
+            long[] product = times(entry(row, column), place, number);
+            int[] high = new int[SIZE];
+            for (int i = 0; i < SIZE; i++) {
+                high[i] = high(product[i]);
+            }
+            for (int i : read[row]) {
+                high[i] = Math.floorMod(high(product[i]) + (low(product[i]) > 0 ? 1 : -1), steps);
+            }
+            packed = Check.join(packed, pack(high, set == 3 ? 6 : 4));
         }
         byte[] signature = shake(3, packed, challengeLength);
-        for (int[] f : answer) {
+        for (int j = 0; j < columns; j++) {
             int[] told = new int[SIZE];
-            for (int i = 0; i < SIZE; i++) {
-                told[i] = top - f[i];
-            }
+            Arrays.fill(told, top);
+            told[place] -= j == column ? number : 0;
             signature = Check.join(signature, pack(told, set == 3 ? 18 : 20));
         }
         return Check.join(signature, hints);
+    }
+
+    private long[] entry(int row, int column) {
+        int at = row * columns + column;
+        if (entries[at] == null) {
+            entries[at] = restored(sampled(row, column));
+        }
+        return entries[at];
+    }
+
+    /** Times a number and a place's power: what goes over the end comes back with the other sign. */
+    private static long[] times(long[] f, int place, int number) {
+        long[] product = new long[SIZE];
+        for (int i = 0; i < SIZE; i++) {
+            product[(i + place) % SIZE] = Math.floorMod(sign(i, place) * f[i] * number, MODULUS);
+        }
+        return product;
+    }
+
+    private static long sign(int i, int place) {
+        return i + place < SIZE ? 1 : -1;
+    }
+
+    /** The power of the modulus less two. */
+    private static long inverse(long number) {
+        long power = 1;
+        for (int bit = 22; bit >= 0; bit--) {
+            power = power * power % MODULUS;
+            power = (MODULUS - 2 >> bit & 1) == 1 ? power * number % MODULUS : power;
+        }
+        return power;
     }
 
     private static byte[] pack(int[] numbers, int bits) {
@@ -101,12 +143,20 @@ final class Forge {
         return bytes;
     }
 
-    /** HighBits, by the words of Decompose. */
+    /** HighBits and LowBits, by the words of Decompose. */
     private int high(long number) {
-        long step = (MODULUS - 1) / steps;
-        long rest = number % step;
-        rest = rest > step / 2 ? rest - step : rest;
+        long rest = rest(number);
         return number - rest == MODULUS - 1 ? 0 : (int) ((number - rest) / step);
+    }
+
+    private long low(long number) {
+        long rest = rest(number);
+        return number - rest == MODULUS - 1 ? rest - 1 : rest;
+    }
+
+    private long rest(long number) {
+        long rest = number % step;
+        return rest > step / 2 ? rest - step : rest;
     }
 
     /** RejNTTPoly of an entry of the matrix. */

@@ -1,4 +1,5 @@
 import java.util.Arrays;
+import java.util.Base64;
 import java.util.NoSuchElementException;
 
 /** The boundary cases of promises 11 and 12: a test for each sentence that names one. */
@@ -12,7 +13,12 @@ public final class KemEdgeTest {
             theOutermostMessagesComeBack(set);
             openTakesACiphertextsLength(set);
             aByteAlteredGivesAnotherSecret(set);
+            aBitAlteredGivesAnotherSecret(set);
             theOutermostCiphertextsAreTurned(set);
+            bitsTurnAtTheQuartersOfTheModulus(set);
+        }
+        for (String[] due : Vectors.KEM_ROUND) {
+            numbersAreRoundedAsDue(due);
         }
         sealNeedsKeysOfItsKind();
         openNeedsKeysOfItsKindWithASecretPart();
@@ -123,16 +129,32 @@ public final class KemEdgeTest {
                 desk = new Desk();
                 desk.quickKeys(set);
             }
-            desk.tape(Check.stream("message", 32));
-            desk.next().seal(0);
-            desk.next().again();
-            String secret = desk.tapeHex(Sizes.CIPHER[set], 6);
-            desk.next().end(Sizes.CIPHER[set]);
-            desk.next().alter(at, 1 << at % 8);
-            Check.same("set " + set + ", byte " + at + " altered: open", desk.next().open(0), 32);
-            Check.same("set " + set + ", byte " + at + " altered: the same secret",
-                    secret.equals(desk.resultHex(6)), false);
+            openAltered(desk, set, at, 1 << at % 8);
         }
+    }
+
+    /** The same for each bit at the ends of a ciphertext and of its two parts: small ones leave the message as it is. */
+    private static void aBitAlteredGivesAnotherSecret(int set) {
+        int parts = Sizes.CIPHER[set] - (set < 2 ? 128 : 160);
+        for (int at : new int[] {0, 1, parts - 1, parts, Sizes.CIPHER[set] - 2, Sizes.CIPHER[set] - 1}) {
+            Desk desk = new Desk();
+            desk.quickKeys(set);
+            for (int bit = 0; bit < 8; bit++) {
+                openAltered(desk, set, at, 1 << bit);
+            }
+        }
+    }
+
+    private static void openAltered(Desk desk, int set, int at, int with) {
+        String what = "set " + set + ", byte " + at + " altered by " + with + ": ";
+        desk.tape(Check.stream("message", 32));
+        desk.next().seal(0);
+        desk.next().again();
+        String secret = desk.tapeHex(Sizes.CIPHER[set], 6);
+        desk.next().end(Sizes.CIPHER[set]);
+        desk.next().alter(at, with);
+        Check.same(what + "open", desk.next().open(0), 32);
+        Check.same(what + "the same secret", secret.equals(desk.resultHex(6)), false);
     }
 
     /** 12, of ciphertexts that no one has sealed: the secret is the hash of the secret part's end and of them. */
@@ -151,5 +173,29 @@ public final class KemEdgeTest {
             hashing.next().hash(3, 32);
             Check.same("set " + set + ", a ciphertext of " + value, got, hashing.resultHex());
         }
+    }
+
+    /** A secret part that brings every bit of a message just to the number at which it would turn. */
+    private static void bitsTurnAtTheQuartersOfTheModulus(int set) {
+        Desk desk = new Desk();
+        desk.quickKeys(set);
+        byte[] numbers = Arrays.copyOf(Base64.getDecoder().decode(Vectors.KEM_EDGE_SECRETS[set]), Sizes.numbers(set));
+        byte[] end = desk.partsEnd(0, true, 64);
+        desk.tape(numbers).next().show(0, false);
+        desk.next().again();
+        Check.same("set " + set + ": a secret part at the edge", desk.write(end).next().load(set, true), 1);
+        desk.tape(Check.stream("edge message " + set, 32)).next().seal(0);
+        desk.next().again();
+        String secret = desk.tapeHex(Sizes.CIPHER[set], 32);
+        desk.next().end(Sizes.CIPHER[set]);
+        desk.next().open(1);
+        Check.same("set " + set + ": every bit is read aright", desk.resultHex(), secret);
+    }
+
+    private static void numbersAreRoundedAsDue(String[] due) {
+        Desk desk = new Desk();
+        desk.quickKeys(Integer.parseInt(due[0]));
+        desk.tape(Check.stream("round message " + due[0] + " " + due[1], 32)).next().seal(0);
+        Check.same("set " + due[0] + ": a number at the end of a step", desk.resultDigest(), due[2]);
     }
 }

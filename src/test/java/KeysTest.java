@@ -10,6 +10,9 @@ public final class KeysTest {
         for (String[] due : Vectors.MATRIX) {
             theModulusIsNoNumber(due);
         }
+        for (String[] due : Vectors.ZERO_KEYS) {
+            keysAreAsDue(due, "zero keys ", 32, due[2], due[3]);
+        }
         partGivesBytes();
         showGivesParts();
         toldTellsOfKeys();

@@ -100,6 +100,41 @@ final class Vectors {
     };
 
     /**
+     * Sealings in which a number lies just at the end of a step of rounding: set, case, SHA3-256 of ciphertext with
+     * secret. Inputs: the keys of Desk.quickKeys, "round message SET CASE".
+     */
+    static final String[][] KEM_ROUND = {
+        {"0", "115", "9a48d225e4ce51fa8c624a79f9e0897001ea182008ea919b7e846d21b15f48b3"},
+        {"1", "140", "9abfcf747c5ad58377a075e534b668eb1553a8a9c6a7e08239b90da1aeae7bda"},
+        {"2", "91", "8f0631f238354e3e7fc69d14d445ef22c9b9a5c4c6b01ca4f678001718e1beb9"},
+    };
+
+    /**
+     * The first numbers of a secret part, in base 64, with zeros in place of the others: they bring "edge message SET",
+     * sealed with the keys of Desk.quickKeys, to 832 or 2497 for each bit 0 and to 833 or 2496 for each bit 1.
+     */
+    static final String[] KEM_EDGE_SECRETS = {
+        "3VMm8Dul4Uts3qW/qCMTQNS87VcW17i2WNsfFNLHuwvE2AtGPJGV/zhvy2yoJrEeNjC4Qxp0HWCOM7M94aej8pdLtLAFl5rBy7k2"
+            + "UYEd8edo4rBSpDYsD+tmw3OFQMUiUBcQ28okjJWq/uZh2co7XgWzNXqDjTh9HWelzBhcdkhftCGXqkEmtTsv/HXBlIkuPPeFJVRk"
+            + "weeLL2M4rzq6ZyVSSdrMRGGdfrx7m1dHkBJ2RUFAQoqV/RUCYvA3GNKx4zArhJclzalOYfYkWbAdNwVuhuJLioZ3Oll3xlgy5FYK"
+            + "StgcAiOztdc76GS3fkya8lcXkFByJMWrgfaC0WqbQse3UszIj5d2CropU8youKTGCaWatfoUDtxu6ZBha6G1CysjpkO1skojogbO"
+            + "NHGzSzInRjXEg1W6khwB/sNh7IGFpPM0LMR+hfubk4l8zQZXvbSFw3C32FVLqCZdfQMLetNXAXU4/tUAZzy83SUuKhEBrNS69DSB"
+            + "lYUxpba6bHYx",
+        "F0e7vczKtMA1LVChKDYljtxBt8ufc/ufbptD8Kszz/FBKMVZSQgeOlwYa6UuJqMK07qLv9ANO7gPxTLLOiJzjMyDidjAoDFCx3hr"
+            + "TwS+R4JFrvgLVLwbMaF3otFJbex7exxe26jP5KwJLMM9jZcZj5nFXAFwalKIhXCWvXmqnDa5hzcBGKMmBpuRsQUsakQYz6wfa1uF"
+            + "xzw2CRZfz9UUBpemIRiaj8VFIRYRjhBebFEK38Qw81mZQZeRdKULpsrAOKVouGQ4JHpLbocopspK8xue5eNPYKgM1PM0wpvHzyeK"
+            + "AjKMGatuHCdti3i6sZqaRPOaL7Qq57h6HUdibtclSYkKpQwzb+kBCmuUWUqCjwsTLgQT3Kox2NYp7sMbs2hnMxNiOUUKD1vFCpfG"
+            + "nLUeKISMyxS0UYDINWJE7oeTDRsxl+WR6RuhuBklSmkMbqsMFDyeIxo00ypEB6Clx3TE5hKDUUCpjtYqJSqboVlQLykGupsXYVfM"
+            + "cGGYKSgE0emh",
+        "batYS8qHA7t517EgSPNHpEo20OiSAHi+hPbF6ODMSQkf5YrEzfc8ZjK9a+YEQreyNuQNRYYCHVvGdjVp1cECg/iQKktpQbU1I6l+"
+            + "RyZnQEcaPHqSIpaBFaluxyB+GOYumuVOD8FMSzww79KW1tRoHUZ5SrZfnsaFC9lWxgIH6fy4EoYHJ3xPc9k/emeWgolRjhlYNrlM"
+            + "lvFCK4nOktwcnlYTxDip10o6W0QzpQUoF3RAXtphNaMaguK+JCaejEqV2VpMilHPLCG4Yhl3QnlD14lTbeaS5nht9vQDWuOGaxO+"
+            + "nLldgwmzUYhqZIiF4ycDqoeDIzwG/PUXyFgZoiwYUppsqqQHM4EPNoU0fUGAyiVi4kMIDwLMhoIOIQOohTa/jkWRN5GeRGZTQtYu"
+            + "0IJDFaxZt0y3y1iIAHkRvyaHySLEWrhh3lDBdBxDuNJQ9BGpUQMkTXpa4mUV5YBvA1GGkQcK1xdAPRptQKi7uiOY5Ll/nWm3e5Or"
+            + "SYlBFkWeLypV",
+    };
+
+    /**
      * Set, case, length of the context, length of the message; SHA3-256 of public and secret part; how often the
      * loop is gone through; SHA3-256 of the signature. Inputs: "dsa keys SET CASE", "dsa tape SET CASE".
      */
@@ -158,7 +193,9 @@ final class Vectors {
      * pass that is taken is at the edge: of the answer's norm, of the rest's above and below, of the hints' number;
      * last, one with a very long loop. Then for each set: a pass is refused as the answer's norm is just the bound,
      * below; as the rest's is, where the last step is the first again; then the pass that is taken has a number just
-     * between two steps; (sets 4 and 5) has a row without hints; has an answer at the edge on the other side.
+     * between two steps; (sets 4 and 5) has a row without hints; has an answer at the edge on the other side. Then for
+     * each set: the pass that is taken has a rest at the edge where the last step is the first again; its first number
+     * is at the end of a step; a pass is refused for the rest's first number alone, and for its last alone.
      */
     static final String[][] EDGES = {
         {"3", "47", "3", "cdf1bc3e4fe315d11d7b71cf64bffe7075c2f5bb8079ea9f6c7bc41ebe409718"},
@@ -202,6 +239,18 @@ final class Vectors {
         {"5", "114", "2", "5a84cdb444f68cad4103638c52b09ab799685e739dbf1fc86a07bdc13672ff96"},
         {"5", "52", "1", "7b4fc174f17f6b329f42741d285d169a96fd8b221037a644bfc5692b718d298d"},
         {"5", "539", "5", "eea893f6d47eb82a455599922b58f89270ba835c15b17defa55387890db4cb66"},
+        {"3", "24781", "4", "752440f79918356527f61a54247fe6375805ad49d2d34030954ed60a7f343151"},
+        {"3", "1085", "8", "b6eae0597a473db1d342e771ae61f7bc2824561f33a2290eb04fc865c556cf1e"},
+        {"3", "131", "13", "df1457fb51f58f9b197a59e09f213b0a9ecfef23bfeac00d3b587a00fd8667c2"},
+        {"3", "502", "10", "d48c99c947cb995da26ace6a0317219814b55b89a13b3e74f83218d5e9de04c8"},
+        {"4", "1274", "3", "81c85ae5b47074287e5e61854b0e94365a5695cb74fbe74641f43ddf55a447a1"},
+        {"4", "88266", "2", "ea9e4b389dfb23dc02415f6bb454f7a732de09758ed4a35b1ef1b61017976680"},
+        {"4", "270", "3", "d710d3d867b3a2604fc01ae0c54a1ba1978790d2645632e7aa687155c69c97ef"},
+        {"4", "144", "6", "50664a7468b441a6982bd4ce4d2cf105de0718f521ca3eec10091df466c1e618"},
+        {"5", "1876", "8", "64375c4f0c8d18ef4355b70257cc58679c80546971a05f51f972d2a617048266"},
+        {"5", "21838", "2", "c0ab3b660c9e14c423d6ec2720261d0210c9b25d0832c8337debd2818cd00688"},
+        {"5", "33", "12", "d9d211f4bf6b35b00dd6c86457181b9e3c06b7aecb20df98c3c2733e21aaaab7"},
+        {"5", "210", "9", "aa4c487a1992e85c1f141b6bb156aaae0a89779920e42779703cf9b8b461fb50"},
     };
 
     /** Keys whose matrix is drawn with the modulus itself among the numbers: set, case, SHA3-256 of the public part. */
@@ -209,6 +258,22 @@ final class Vectors {
         {"3", "1483", "c3016b926b8f49110a571a508f2e717fc3bfb95debdf4a3c15bf55568ecc9c97"},
         {"4", "1207", "9c87d179d8406657663fb74e497d531a4ab5df144d0ea0762123e54ca5eaff3c"},
         {"5", "245", "3547af9c217451d00f0f65902b4f35355cce8eab2530f18aacd047cc8ae2f59e"},
+    };
+
+    /**
+     * Keys in which a sum is just the modulus, so that a number is zero: set, case, SHA3-256 of public and secret
+     * part. Inputs: "zero keys SET CASE".
+     */
+    static final String[][] ZERO_KEYS = {
+        {"3", "8581",
+            "3baaf83cfec2fec48b3dd53d540ca38cdf51c40c55cfef3a6bacc6ce4ecaf91e",
+            "23e829227b7a3d1c2a9dad2b24d6097c33a3783e06891dbf680835c8a258a6b3"},
+        {"4", "22352",
+            "192bb36c87214fb8654b9b3b18d8f4481e484a6b64ca876c066655e58d56342f",
+            "693b5560c25fa10195938b0be4efac3f11f22c6c655c59b2f7a84aa39bc02e58"},
+        {"5", "553",
+            "81170c12962ebab7328fcb451508e4da53fdb32b5daa2070e1365ebf6572162a",
+            "bea2291f81e10b14c3a3148b044c2e7fc7e48810892c55c07469708372b84d55"},
     };
 
     /**
