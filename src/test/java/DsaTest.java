@@ -73,9 +73,9 @@ public final class DsaTest {
 
     private static void whatIsAlteredIsRefused(int set) {
         Desk desk = signed(set);
-        int end = Sizes.SIGNATURE[set] + 12;
-        for (int at : new int[] {0, 31, 64, 700, Sizes.SIGNATURE[set] / 2, Sizes.SIGNATURE[set], Sizes.SIGNATURE[set] + 2,
-            Sizes.SIGNATURE[set] + 3, end - 1}) {
+        int start = Sizes.SIGNATURE[set];
+        int end = start + 12;
+        for (int at : new int[] {0, 31, 64, 700, start / 2, start, start + 2, start + 3, end - 1}) {
             lay(desk);
             desk.next().alter(at, 4);
             Check.same("set " + set + " altered at " + at, desk.next().verify(0, 3), false);

@@ -133,7 +133,7 @@ public final class KemEdgeTest {
         }
     }
 
-    /** The same for each bit at the ends of a ciphertext and of its two parts: small ones leave the message as it is. */
+    /** The same for each bit at the ends of a ciphertext and of its two parts: a low bit leaves the message alone. */
     private static void aBitAlteredGivesAnotherSecret(int set) {
         int parts = Sizes.CIPHER[set] - (set < 2 ? 128 : 160);
         for (int at : new int[] {0, 1, parts - 1, parts, Sizes.CIPHER[set] - 2, Sizes.CIPHER[set] - 1}) {

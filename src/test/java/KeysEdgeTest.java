@@ -51,7 +51,8 @@ public final class KeysEdgeTest {
     /** 6: "IllegalArgumentException: another SET". */
     private static void keysKnowSixSets() {
         for (int length : new int[] {32, 64}) {
-            Refusal refusal = new Refusal("a tape of " + length, desk -> desk.result(77).tape(Check.stream("s", length)));
+            byte[] seed = Check.stream("seed", length);
+            Refusal refusal = new Refusal("a tape of " + length, desk -> desk.result(77).tape(seed));
             for (int set : new int[] {-1, 6, 7, 256, LEAST, MOST}) {
                 refusal.of("keys(" + set + ")", IllegalArgumentException.class, keys -> keys.keys(set));
             }

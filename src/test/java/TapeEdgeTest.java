@@ -166,7 +166,8 @@ public final class TapeEdgeTest {
     /** 5: "Byte i of the TAPE is exclusive-or'ed with the low 8 bits of with: what it is then." */
     private static void alterTakesTheLowBitsAlone() {
         int[][] cases = {{0, 0, 0}, {0, 0x80, 0x80}, {0, 255, 255}, {0, 256, 0}, {0, 0x1ff, 255}, {0, -1, 255},
-            {0, -256, 0}, {0, LEAST, 0}, {0, MOST, 255}, {255, 1, 254}, {255, 255, 0}, {0x80, 0, 0x80}, {0x55, -1, 0xaa}};
+            {0, -256, 0}, {0, LEAST, 0}, {0, MOST, 255}, {255, 1, 254}, {255, 255, 0}, {0x80, 0, 0x80},
+            {0x55, -1, 0xaa}};
         for (int[] c : cases) {
             Desk desk = new Desk().tape(new byte[] {7, (byte) c[0], 9});
             Check.same(c[0] + " altered with " + c[1], desk.next().alter(1, c[1]), c[2]);

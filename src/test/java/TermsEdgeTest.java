@@ -233,7 +233,7 @@ public final class TermsEdgeTest {
             desk.next().alter(0, 255 ^ desk.tapeByte(0));
             desk.next().alter(1, 255 ^ desk.tapeByte(1));
         })
-                .of("load(0, false): check, then room", UnsupportedOperationException.class, keys -> keys.load(0, false))
+                .of("load(0, false): check, room", UnsupportedOperationException.class, keys -> keys.load(0, false))
                 .of("load(0, true): length, then check", IllegalArgumentException.class, keys -> keys.load(0, true));
     }
 
