@@ -12,9 +12,7 @@ public final class LatticeKeys {
     private static final int MOST_PAIRS = 8;
     private static final int KEM_SETS = 3;
     private static final int ALL_SETS = 6;
-    private static final int CHANCE_LENGTH = 32;
     private static final int LONGEST_CONTEXT = 255;
-    private static final int MOST_PASSES = 200;
 
     private final byte[] tape = new byte[TAPE_ROOM];
     private int tapeLength = 0;
@@ -26,7 +24,7 @@ public final class LatticeKeys {
     private final DsaSet[] dsaSets = new DsaSet[ALL_SETS - KEM_SETS];
     private final Sponge sponge = new Sponge();
     private final Kem kem = new Kem();
-    private final Dsa dsa = new Dsa(MOST_PASSES);
+    private final Dsa dsa = new Dsa();
 
     public LatticeKeys() {
         for (int i = 0; i < KEM_SETS; i++) {
@@ -151,7 +149,7 @@ public final class LatticeKeys {
         if (pair == null) {
             throw new NoSuchElementException("no such keys of ML-KEM");
         }
-        if (tapeLength != CHANCE_LENGTH) {
+        if (tapeLength != Kem.MESSAGE_LENGTH) {
             throw new IllegalArgumentException("the tape is not 32 bytes long");
         }
         KemSet set = kemSets[pair.set];
@@ -181,7 +179,7 @@ public final class LatticeKeys {
         if (pair == null || pair.secretPart == null) {
             throw new NoSuchElementException("no such keys of ML-DSA with a secret part");
         }
-        if (!holdsContext(CHANCE_LENGTH, n)) {
+        if (!holdsContext(Dsa.CHANCE_LENGTH, n)) {
             throw new IllegalArgumentException("a context of another length, or a short tape");
         }
         DsaSet set = dsaSets[pair.set - KEM_SETS];
@@ -726,6 +724,7 @@ public final class LatticeKeys {
     /** ML-KEM: its key generation, encapsulation and decapsulation, with the scheme K-PKE under them. */
     static final class Kem {
         static final int SEED_LENGTH = 64;
+        static final int MESSAGE_LENGTH = 32;
         static final int SECRET_LENGTH = 32;
         static final int POLYNOMIAL_LENGTH = 384;
         private static final int MODULUS = 3329;
@@ -740,7 +739,7 @@ public final class LatticeKeys {
         private final int[][] secret = new int[MOST_RANK][Ring.SIZE];
         private final int[] sum = new int[Ring.SIZE];
         private final int[] other = new int[Ring.SIZE];
-        private final byte[] message = new byte[32];
+        private final byte[] message = new byte[MESSAGE_LENGTH];
         private final byte[] digest = new byte[32];
         /** Two seeds of 32 bytes, as G gives them. */
         private final byte[] seeds = new byte[64];
@@ -777,7 +776,7 @@ public final class LatticeKeys {
 
         /** ML-KEM.Encaps_internal. */
         void encapsulate(KemSet set, byte[] publicPart, byte[] chance, byte[] to) {
-            System.arraycopy(chance, 0, message, 0, 32);
+            System.arraycopy(chance, 0, message, 0, MESSAGE_LENGTH);
             digestOf(publicPart, 0, set.publicLength);
             deriveSeeds(digest, 0);
             encrypt(set, publicPart, to);
@@ -838,7 +837,7 @@ public final class LatticeKeys {
         /** The shared secret and the coins of encryption, out of the message and the public part's hash. */
         private void deriveSeeds(byte[] hashed, int at) {
             sponge.start(Sponge.SHA3_512);
-            sponge.absorb(message, 0, 32);
+            sponge.absorb(message, 0, MESSAGE_LENGTH);
             sponge.absorb(hashed, at, 32);
             sponge.finish();
             sponge.squeeze(seeds, 0, 64);
@@ -1052,6 +1051,7 @@ public final class LatticeKeys {
     /** ML-DSA: its key generation, signing and verification. */
     static final class Dsa {
         static final int SEED_LENGTH = 32;
+        static final int CHANCE_LENGTH = 32;
         static final int NO_SIGNATURE = 0;
         static final int MODULUS = 8380417;
         static final int HIGH_BITS = 10;
@@ -1059,13 +1059,12 @@ public final class LatticeKeys {
         private static final int ROOT = 1753;
         private static final int MOST_ROWS = 8;
         private static final int MOST_COLUMNS = 7;
-        private static final int CHANCE_LENGTH = 32;
+        private static final int MOST_PASSES = 200;
         /** Where in the secret part the key of signing, the public part's hash and the vectors begin. */
         private static final int KEY_PLACE = 32;
         private static final int HASH_PLACE = 64;
         private static final int VECTOR_PLACE = 128;
 
-        private final int mostPasses;
         private final Sponge sponge = new Sponge();
         private final Ring ring = new Ring(MODULUS, ROOT, 8);
         private final DsaSampler sampler = new DsaSampler();
@@ -1084,10 +1083,6 @@ public final class LatticeKeys {
         private final byte[] challengeAgain = new byte[64];
         private final byte[] hints = new byte[84];
         private final byte[] packed = new byte[192];
-
-        Dsa(int mostPasses) {
-            this.mostPasses = mostPasses;
-        }
 
         /** ML-DSA.KeyGen_internal. */
         void makePair(DsaSet set, byte[] chance, byte[] publicPart, byte[] secretPart) {
@@ -1154,7 +1149,7 @@ public final class LatticeKeys {
             sponge.absorb(digest, 0, 64);
             sponge.finish();
             sponge.squeeze(seeds, 0, 64);
-            for (int pass = 1; pass <= mostPasses; pass++) {
+            for (int pass = 1; pass <= MOST_PASSES; pass++) {
                 commit(set, set.columns * (pass - 1));
                 if (answerIsShort(set) && restIsShort(set) && makeHints(set)) {
                     writeSignature(set, to);

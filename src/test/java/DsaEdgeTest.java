@@ -32,6 +32,7 @@ public final class DsaEdgeTest {
         signNeedsKeysOfItsKindWithASecretPart();
         verifyNeedsKeysOfItsKind();
         twoHundredPassesAreTheMost();
+        theRestEndsBelowItsBound();
         Check.finish();
     }
 
@@ -137,16 +138,62 @@ public final class DsaEdgeTest {
 
     private static void makeStricter(LatticeKeys keys) {
         try {
-            Field sets = LatticeKeys.class.getDeclaredField("dsaSets");
-            sets.setAccessible(true);
-            Object set = ((Object[]) sets.get(keys))[0];
-            Field slack = set.getClass().getDeclaredField("slack");
+            LatticeKeys.DsaSet set = ((LatticeKeys.DsaSet[]) inside(keys, "dsaSets"))[0];
+            Check.same("the slack of set 3", set.slack, 78);
+            Field slack = LatticeKeys.DsaSet.class.getDeclaredField("slack");
             slack.setAccessible(true);
-            Check.same("the slack of set 3", slack.getInt(set), 78);
             slack.setInt(set, 285);
         } catch (ReflectiveOperationException other) {
             throw new AssertionError("the inside of the object is another", other);
         }
+    }
+
+    private static Object inside(LatticeKeys keys, String name) {
+        try {
+            Field field = LatticeKeys.class.getDeclaredField(name);
+            field.setAccessible(true);
+            return field.get(keys);
+        } catch (ReflectiveOperationException other) {
+            throw new AssertionError("the inside of the object is another", other);
+        }
+    }
+
+    /**
+     * Terms: "Sign_internal", which passes over a share of the low part (ct0) from gamma2 on. No seed is known that
+     * comes just there, so the low part is altered inside the object: nothing before that look depends on it, so that
+     * the pass that was good is good still, or is passed over for this alone. (In sets 4 and 5 no share is so long.)
+     */
+    private static void theRestEndsBelowItsBound() {
+        Desk whole = edgeKeys(new Desk(), 3).tape(Check.stream("chance", 32));
+        int passes = whole.next().sign(0, 0);
+        byte[] challenge = whole.resultBytes(0, 32);
+        int[] ball = Forge.ball(challenge, 39);
+        for (int rest : new int[] {95231, -95231, 95232, -95232}) {
+            Desk desk = edgeKeys(new Desk(), 3).tape(Check.stream("chance", 32));
+            byte[] secretPart = ((LatticeKeys.KeyPair[]) inside(desk.next(), "pairs"))[0].secretPart;
+            byte[] low = Forge.pack(lowPart(ball, rest), 13);
+            System.arraycopy(low, 0, secretPart, 128 + 8 * 96, low.length);
+            boolean good = Math.abs(rest) < 95232;
+            Check.same("a rest of " + rest, desk.next().sign(0, 0) == passes, good);
+            Check.same("the same challenge", Arrays.equals(desk.resultBytes(0, 32), challenge), good);
+        }
+    }
+
+    /** A polynomial as it is packed, whose product with the challenge has this number at place 0. */
+    private static int[] lowPart(int[] ball, int rest) {
+        int[] told = new int[256];
+        Arrays.fill(told, 4096);
+        int left = 39;
+        for (int i = 0; i < 256; i++) {
+            if (ball[i] != 0) {
+                int share = rest / left;
+                // What goes over the end comes back with the other sign.
+                told[(256 - i) % 256] -= i == 0 ? ball[i] * share : -ball[i] * share;
+                rest -= share;
+                left--;
+            }
+        }
+        return told;
     }
 
     /** 14: "a context of n bytes, 0 .. 255"; "IllegalArgumentException: another n". */

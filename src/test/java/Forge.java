@@ -135,7 +135,7 @@ final class Forge {
         return power;
     }
 
-    private static byte[] pack(int[] numbers, int bits) {
+    static byte[] pack(int[] numbers, int bits) {
         byte[] bytes = new byte[32 * bits];
         for (int i = 0; i < SIZE * bits; i++) {
             bytes[i / 8] |= (byte) ((numbers[i / bits] >> i % bits & 1) << i % 8);
@@ -175,6 +175,23 @@ final class Forge {
             }
         }
         return numbers;
+    }
+
+    /** SampleInBall: so many numbers that are 1 or -1. */
+    static int[] ball(byte[] challenge, int ones) {
+        byte[] bytes = shake(3, challenge, 256);
+        int[] ball = new int[SIZE];
+        int at = 8;
+        for (int i = SIZE - ones; i < SIZE; i++) {
+            while ((bytes[at] & 255) > i) {
+                at++;
+            }
+            int sign = i - SIZE + ones;
+            ball[i] = ball[bytes[at] & 255];
+            ball[bytes[at] & 255] = (bytes[sign / 8] >> sign % 8 & 1) == 0 ? 1 : -1;
+            at++;
+        }
+        return ball;
     }
 
     /** The inverse transform by its meaning: numbers of a polynomial from its values at the odd powers of the root. */
